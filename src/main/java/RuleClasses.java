@@ -546,6 +546,7 @@ public final class RuleClasses {
                     return put(lower * upper);
                 case QUOTIENT:
                     return upper == 0 ? DIVISOR_ZERO : put(lower / upper);
+                case LESS:
                 default:
                     return put(lower < upper ? 1 : 0);
             }

@@ -72,12 +72,13 @@ public final class AskingTest {
         int alsoOnFive = Check.made(x, 0, 0, 5, 0, 1, 9, 0);
         Check.written(x, 0, 0, 5, 0, 1, 9, 0);
         int onLast = Check.made(x, 0, 0, 1000, 0, 1, 9, 0);
+        int onFour = Check.made(x, 0, 0, 4, 0, 1, 9, 0);
         int ofAnother = Check.made(x, 5, 2, 0, 0, 1, 9, 0);
         Check.is("numbers", onFive, 0);
         Check.is("day 0", x.edition(0, 0, 0), -1);
         Check.is("day 2", x.edition(0, 0, 2), -1);
         Check.is("day 3", x.edition(0, 0, 3), onThree);
-        Check.is("day 4", x.edition(0, 0, 4), onThree);
+        Check.is("day 4", x.edition(0, 0, 4), onFour);
         Check.is("of equal days the greatest number that is made", x.edition(0, 0, 5), alsoOnFive);
         Check.is("day 999", x.edition(0, 0, 999), alsoOnFive);
         Check.is("day 1000", x.edition(0, 0, 1000), onLast);
@@ -127,6 +128,10 @@ public final class AskingTest {
         }
         Check.is("another owner's", x.failed(3, 2), 0);
         Check.is("all that failed", x.count(3), 5);
+        x.ask(0, 0);
+        Check.is("the first owner's, too", x.count(3), 6);
+        x.ask(5, 2);
+        Check.is("the last owner's, too", x.count(3), 7);
         Check.refuses("owner below", RANGE, () -> x.failed(-1, 0));
         Check.refuses("owner above", RANGE, () -> x.failed(6, 0));
         Check.refuses("what below", RANGE, () -> x.failed(0, -1));

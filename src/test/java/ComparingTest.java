@@ -117,10 +117,24 @@ public final class ComparingTest {
         Check.is("another in the middle", x.same(a, e), false);
         int f = Check.written(x, 0, 0, 0, 0, 3, 7, 0, 2, 0);
         Check.is("another at the end", x.same(a, f), false);
+        fullCodes();
         Check.refuses("no first", NONE, () -> x.same(6, 0));
         Check.refuses("no second", NONE, () -> x.same(0, 6));
         Check.refuses("first -1", NONE, () -> x.same(-1, 0));
         Check.refuses("second -1", NONE, () -> x.same(0, -1));
+    }
+
+    private static void fullCodes() {
+        RuleClasses x = new RuleClasses(20);
+        for (int edition = 0; edition < 3; edition++) {
+            x.rule(0, 0, 0);
+            for (int n = 0; n < 15; n++) {
+                x.op(edition, 0, n);
+            }
+            x.op(edition, edition == 2 ? 7 : 9, 0);
+        }
+        Check.is("two full codes", x.same(0, 1), true);
+        Check.is("another in the last place", x.same(0, 2), false);
     }
 
     private static void promise16() {

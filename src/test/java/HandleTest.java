@@ -29,6 +29,11 @@ public final class HandleTest {
         Check.refuses("the first has ended", STATE, () -> x.by(1));
         Check.is("the second lives", x.by(2), 5);
         Check.is("handles", x.count(5), 2);
+        int another = Check.made(x, 3, 1, 0, 0, 8, 9, 0);
+        Check.is("a handle of another edition", x.handle(another), 3);
+        Check.is("its answer", x.by(3), 8);
+        x.handle(edition);
+        Check.is("the first edition's answer again", x.by(4), 5);
     }
 
     private interface Use {

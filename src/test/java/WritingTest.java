@@ -39,6 +39,18 @@ public final class WritingTest {
             }
         }
         stepsAreCounted();
+        nothingShadows();
+    }
+
+    private static void nothingShadows() {
+        RuleClasses x = new RuleClasses(5);
+        Check.written(x, 0, 0, 0, 0, 3, 9, 0);
+        for (int owner = 0; owner < 6; owner++) {
+            for (int kind = 0; kind < 3; kind++) {
+                x.ask(owner, kind);
+                Check.is("no shadow at first", x.otherwise(owner, kind), 0);
+            }
+        }
     }
 
     private static void stepsAreCounted() {
