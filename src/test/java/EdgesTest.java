@@ -74,7 +74,7 @@ public final class EdgesTest {
         // A day ends the handle, as the making does; beside it nothing may have come of the making.
         Twins.alike(Twins.Past.BUSY, "a making that fails", x -> Check.is("make", x.make(4), -4),
                 x -> x.today(3));
-        Twins.alike(Twins.Past.FULL, "a making that fails", x -> Check.is("make", x.make(22), -4),
+        Twins.alike(Twins.Past.FULL, "a making that fails", x -> Check.is("make", x.make(21), -4),
                 x -> x.today(1000));
     }
 

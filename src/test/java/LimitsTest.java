@@ -77,8 +77,10 @@ public final class LimitsTest {
         Check.refuses("a ninth", ROOM, () -> x.keep());
         Check.is("still eight", x.count(4), 8);
         Check.is("still those eight", x.compare(fact, nine), 8);
-        int eight = Check.made(x, 0, 0, 0, 0, 8, 9, 0);
-        Check.is("the eighth is alike", x.compare(fact, eight), 7);
+        for (int n = 1; n <= 8; n++) {
+            int alike = Check.made(x, 0, 0, 0, 0, n, 9, 0);
+            Check.is("each of them is still as it was", x.compare(fact, alike), 7);
+        }
         Twins.refuse(Twins.Past.FULL, "a ninth kept question", ROOM, y -> y.keep());
     }
 

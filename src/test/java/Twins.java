@@ -104,6 +104,8 @@ final class Twins {
         for (int edition = 3; edition < 23; edition++) {
             x.rule(edition % 6, edition % 3, edition * 10);
         }
+        // The sum of the facts of the last kept question: a comparison with edition 23 sees it.
+        Check.write(x, 22, 0, 379, 9, 0);
         Check.written(x, 5, 2, 1000, SUM_OF_FACTS);
         for (int n = 0; n < 8; n++) {
             x.keep();
@@ -138,8 +140,8 @@ final class Twins {
     }
 
     private static void handlesAndCounts(RuleClasses x, List<String> heard) {
-        // Ahead of all else: a question or a day would end the handle.
-        for (int handle = 0; handle <= 3; handle++) {
+        // Ahead of all else, the living one first: nothing else may have ended it in between.
+        for (int handle = 3; handle >= 0; handle--) {
             int h = handle;
             hear(heard, "by " + h, () -> x.by(h));
         }
